@@ -549,6 +549,15 @@ public final class CursorRewriter {
             }
             return MATCH;
         }
+
+        /** After a match: the place where the segment with the number that the digit tells begins. */
+        int segmentBegin(Rule rule, char digit) {
+            return begins[rule.segmentStarts[digit - '1']];
+        }
+
+        int segmentWidth(Rule rule, char digit) {
+            return begins[rule.segmentEnds[digit - '1']] - segmentBegin(rule, digit);
+        }
     }
 
     /** The letters and the cursor. */
@@ -605,9 +614,8 @@ public final class CursorRewriter {
                 spare[filled] = c;
                 return filled + 1;
             }
-            int start = match.begins[rule.segmentStarts[c - '1']];
-            int width = match.begins[rule.segmentEnds[c - '1']] - start;
-            System.arraycopy(letters, start, spare, filled, width);
+            int width = match.segmentWidth(rule, c);
+            System.arraycopy(letters, match.segmentBegin(rule, c), spare, filled, width);
             return filled + width;
         }
 
@@ -616,11 +624,7 @@ public final class CursorRewriter {
             int width = 0;
             for (int n = 0; n < pieceCount; n++) {
                 char c = rule.pieces[n];
-                if (isSmall(c)) {
-                    width++;
-                } else {
-                    width += match.begins[rule.segmentEnds[c - '1']] - match.begins[rule.segmentStarts[c - '1']];
-                }
+                width += isSmall(c) ? 1 : match.segmentWidth(rule, c);
             }
             return width;
         }

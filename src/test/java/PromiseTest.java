@@ -162,9 +162,11 @@ public final class PromiseTest {
 
     private static void wrongSyntax() {
         String[] wrong = {"", "a", ">", ">b", "a>b>c", "a>B", "a>.", "a>0", "a>4", "a>||", "a>|b|", "a>*", "*a>b", "a**>b",
-            "a+?>b", "()>b", "a()>b", "(a>b", "a)>b", "((a))>b", "(a(b)c)>b", "(a)*>b", "(*a)>b", ")a(>b", "(a)>b)", "{>b", "}>b",
+            "a+?>b", "()>b", "a()>b", "(a>b", "a)>b", "((a))>b", "((a)>b", "(a(b)>c",
+            "(a(b)c)>b", "(a)*>b", "(*a)>b", ")a(>b", "(a)>b)", "{>b", "}>b",
             "{}>b", "a{>b", "a{}c>b", "a{b{c>d", "a}b}c>d", "a}b{c>d", "(a){b>c", "a}(b)>c", "a{b}c", "a}b", "a{b", "[]>b",
-            "[^]>b", "[a>b", "a]>b", "[b-a]>b", "[a-]>b", "[-a]>b", "[a-b-c]>d", "[A]>b", "[.]>b", "[a^]>b", "[^^a]>b", "[a*]>b",
+            "[^]>b", "[a>b", "a]>b", "[b-a]>b", "[c-a]>b", "[xb-a]>b",
+            "[a-]>b", "[-a]>b", "[a-b-c]>d", "[A]>b", "[.]>b", "[a^]>b", "[^^a]>b", "[a*]>b",
             "[[a]]>b", "[a-B]>c", "A=", "A", "A=ab", "A=a*", "A=(a)", "A=a>b", "a=b", "AB=c", "A==a", "=a", "A=[]", "A=[b-a]",
             "1>a", "a1>b", "a>b{", "a>b}", "a>(b)", "a#>b", "a>b_", "(a}b)>c", "a{(b>c", "(a[)]>b", "{{a>b", "a}}>b", "[^-a]>b",
             "(a}>b", "([)>b", "A=[", "A={", "[a-c", "a?+>b", "|a>b", "a|>b", "a{b}c}>d"};
@@ -192,6 +194,9 @@ public final class PromiseTest {
         state("a(bA)>b", UNDEFINED);
         state("A=B", UNDEFINED);
         state("A=A", UNDEFINED);
+        state("B=b", DEFINED);
+        state("AB>c", UNDEFINED);
+        state("BAB>c", UNDEFINED);
         state("A>b", UNDEFINED);
         state(thirteen + ">1", SEGMENT);
         state("(a)>12", SEGMENT);
@@ -335,7 +340,7 @@ public final class PromiseTest {
         due.same("finish", x.finish(), 1);
         state(">d", ADDED + 2);
         due.same("rules", x.rules(), 3);
-        type("x");
+        type("x>");
         x.forget();
         due.same("rules after forget", x.rules(), 0);
         restarted();
