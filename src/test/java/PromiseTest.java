@@ -1,93 +1,5 @@
 /** The promises of the document one by one, with answers worked out by hand from its words. */
-public final class PromiseTest {
-    private static final int NONE = -1;
-    private static final int TAKEN = 0;
-    private static final int DEFINED = 1;
-    private static final int ADDED = 10;
-    private static final int SYNTAX = -1;
-    private static final int UNDEFINED = -2;
-    private static final int SEGMENT = -3;
-    private static final int LIMIT = -4;
-    private static final int MASKED = -5;
-    private static final int REFUSED = -6;
-    private static final int NO_MATCH = 0;
-    private static final int MATCH = 1;
-    private static final int PENDING = 2;
-
-    private static final Due due = new Due();
-    private static CursorRewriter x = new CursorRewriter();
-
-    private static void on(String heading) {
-        due.heading(heading);
-        x = new CursorRewriter();
-    }
-
-    /** What an object answers after its 512th call is free. */
-    private static void renewAt(int call) {
-        if (call % 256 == 0) {
-            x = new CursorRewriter();
-        }
-    }
-
-    /** Types the characters, each of which is due to be taken. */
-    private static void type(String characters) {
-        for (char c : characters.toCharArray()) {
-            due.same("code of '" + c + "' in " + characters, x.code(c), TAKEN);
-        }
-    }
-
-    private static void state(String words, int answer) {
-        type(words);
-        due.same(words + ";", x.code(';'), answer);
-    }
-
-    private static void write(String letters) {
-        for (char c : letters.toCharArray()) {
-            due.same("write " + c, x.write(c), true);
-        }
-    }
-
-    /** The text with '|' where the cursor is. */
-    private static String seen() {
-        StringBuilder words = new StringBuilder();
-        int length = x.length();
-        int cursor = x.cursor();
-        for (int n = 0; n <= length; n++) {
-            if (n == cursor) {
-                words.append('|');
-            }
-            if (n < length) {
-                words.append((char) x.letter(n));
-            }
-        }
-        return words.toString();
-    }
-
-    private static void shows(String text) {
-        due.same("text and cursor", seen(), text);
-    }
-
-    private static void probes(int rule, int growing, int last) {
-        due.same("probe(" + rule + ", false)", x.probe(rule, false), growing);
-        due.same("probe(" + rule + ", true)", x.probe(rule, true), last);
-    }
-
-    private static String times(String letters, int count) {
-        return letters.repeat(count);
-    }
-
-    private static void restarted() {
-        shows("|");
-        due.same("length", x.length(), 0);
-        due.same("cursor", x.cursor(), 0);
-        due.same("applied", x.applied(), 0);
-        due.same("latest", x.latest(), NONE);
-        due.same("stuck", x.stuck(), false);
-        due.same("letter(0)", x.letter(0), 0);
-        due.same("settle", x.settle(), 0);
-        due.same("finish", x.finish(), 0);
-    }
-
+public final class PromiseTest extends Trial {
     private static void newObject() {
         on("promise 1");
         due.same("rules", x.rules(), 0);
@@ -105,7 +17,7 @@ public final class PromiseTest {
     private static void refusedCharacters() {
         on("promise 2, characters");
         for (int c = 0; c < 0x10000; c++) {
-            renewAt(c);
+            freshWhenUsed();
             if (c < 32 || c > 126) {
                 due.same("code(" + c + ")", x.code((char) c), REFUSED);
             }
@@ -361,7 +273,7 @@ public final class PromiseTest {
     private static void writing() {
         on("promise 6");
         for (int c = 0; c < 0x10000; c++) {
-            renewAt(c);
+            freshWhenUsed();
             if (c < 'a' || c > 'z') {
                 due.same("write(" + c + ")", x.write((char) c), false);
             }
@@ -583,17 +495,8 @@ public final class PromiseTest {
         probes(1, NO_MATCH, NO_MATCH);
     }
 
-    /** Probes one rule on a text, with the cursor behind the letters of its beginning, which no rule of the language moves. */
-    private static void matches(String rule, String text, int cursor, int growing, int last) {
-        on("matching " + rule + " in " + text + " at " + cursor);
-        write(text.substring(0, cursor));
-        x.finish();
-        write(text.substring(cursor));
-        state(rule, ADDED);
-        probes(0, growing, last);
-    }
-
     private static void matching() {
+        on("matching");
         matches("a>", "b", 0, NO_MATCH, NO_MATCH);
         matches("a*>", "b", 0, NO_MATCH, NO_MATCH);
         matches("a*>", "", 0, PENDING, NO_MATCH);
@@ -647,18 +550,8 @@ public final class PromiseTest {
         matches("{a}>", "ab", 0, MATCH, MATCH);
     }
 
-    private static void becomes(String rules, String text, String due1) {
-        on("applying " + rules + " to " + text);
-        for (String rule : rules.split(" ")) {
-            type(rule);
-            x.code(';');
-        }
-        write(text);
-        x.finish();
-        shows(due1);
-    }
-
     private static void applying() {
+        on("applying");
         becomes("ab>", "cabd", "cd|");
         becomes("ab>xyz", "cabd", "cxyzd|");
         becomes("(a)(b)>21", "cabd", "cbad|");
