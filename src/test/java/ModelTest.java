@@ -11,7 +11,7 @@ public final class ModelTest {
     private static final Map<String, Integer> seen = new TreeMap<>();
 
     private final Random dice;
-    private final CursorRewriter program = new CursorRewriter();
+    private final Counted program = new Counted();
     private final Model model = new Model();
     private final StringBuilder told = new StringBuilder();
     private final String letters;

@@ -173,7 +173,7 @@ public final class StatementSentencesTest extends Trial {
             "[^ab-cz]>");
         eachAlone(SYNTAX, "[]>", "[^]>", "[>", "]>", "[a>", "a]>", "[^a>", "[[a]>", "[a]]>", "[[a]]>", "[^^a]>", "[a^]>", "[a^b]>",
             "^a>", "[^-a]>", "[.]>", "[A]>", "[*]>", "[a*]>", "[a,b]>", "[1]>", "[a1]>", "[a|b]>", "[`]>", "[{]>",
-            "[a{]>", "[@]>");
+            "[a{]>", "[@]>", "[{b>", "[a{b>", "[^a{b>", "[a*{b>", "b}[>", "b}[a>", "b}[^>", "b}[a*>", "([a)>", "c[a{b>", "b}c[a>");
     }
 
     private static void ranges() {
@@ -183,7 +183,7 @@ public final class StatementSentencesTest extends Trial {
         sentence(TERMS, "the second not earlier in the alphabet than the first");
         eachAlone(ADDED, "[a-a]>", "[z-z]>", "[a-z]>", "[y-z]>", "[^m-m]>");
         eachAlone(SYNTAX, "[b-a]>", "[z-y]>", "[z-a]>", "[y-b]>", "[^b-a]>", "[ab-a]>", "[b-aa]>", "[a-zb-a]>", "A=[b-a]",
-            "[b-a]{c>", "c}[b-a]>");
+            "[b-a]{c>", "c}[b-a]>", "[b-a{c>", "c}[b-a>", "[b-a>", "([b-a)>");
     }
 
     private static void quantifiers() {
@@ -357,6 +357,35 @@ public final class StatementSentencesTest extends Trial {
         due.same("; behind 48", x.code(';'), SYNTAX);
         state(times("a", 48), SYNTAX);
         state("a>b", ADDED);
+    }
+
+    private static void nothingStaysOfAnEarlierOne() {
+        sentence(TERMS, "the statement is empty again in any case");
+        String[] refused = {"b{(c*)(d)}e+>12|34", "B{(c*)(d)}e+>12|1", "b{(c*)(d)}e+>12|3", "b{(c*)(d)}e+" + THIRTEEN + ">12|1",
+            "b{(c*)(d)(c)(d)}e+>12|1"};
+        int[] answers = {SYNTAX, UNDEFINED, SEGMENT, LIMIT, LIMIT};
+        for (int n = 0; n < refused.length; n++) {
+            fresh();
+            state(refused[n], answers[n]);
+            state("a>1", SEGMENT);
+            state(refused[n], answers[n]);
+            state("a>x", ADDED);
+            state(refused[n], answers[n]);
+            state("a>y", MASKED);
+            state("ab>", MASKED);
+            state(refused[n], answers[n]);
+            state("b>y", ADDED + 1);
+            write("ab");
+            finishes(2, "xy|");
+        }
+        fresh();
+        state("b{(c*)(d)}e+>12|1", ADDED);
+        x.forget();
+        state("a>1", SEGMENT);
+        state("a>x", ADDED);
+        state("a>y", MASKED);
+        write("a");
+        finishes(1, "x|");
     }
 
     private static void eightRules() {
@@ -656,6 +685,7 @@ public final class StatementSentencesTest extends Trial {
         laterDefinitionsChangeNothing();
         segmentNumbers();
         emptyAgainInAnyCase();
+        nothingStaysOfAnEarlierOne();
         syntaxComesFirst();
         undefinedComesSecond();
         segmentComesThird();

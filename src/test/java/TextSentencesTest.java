@@ -422,6 +422,22 @@ public final class TextSentencesTest extends Trial {
         due.same("stuck at 63", x.stuck(), true);
     }
 
+    private static void onlyTheKeyIsReplaced() {
+        sentence(STUCK, "when the text would have more than 60 letters then");
+        String[] rules = {"a}b>xy", "a}bc*>xy", "c{a>xy", "c*{a}b>xy"};
+        for (String rule : rules) {
+            fresh();
+            state(rule, ADDED);
+            write(times("c", 57) + "ab");
+            finishes(1, times("c", 57) + "xyb|");
+            due.same("stuck at 60", x.stuck(), false);
+            x.restart();
+            write(times("c", 58) + "ab");
+            finishes(0, times("c", 58) + "|ab");
+            due.same("stuck at 61", x.stuck(), true);
+        }
+    }
+
     private static void stuckEvenIfALaterRuleFits() {
         sentence(STUCK, "A rule is not applied, and the rewriter is STUCK");
         state("ac>bbb", ADDED);
@@ -518,6 +534,7 @@ public final class TextSentencesTest extends Trial {
         cursorAfterwards();
         movingOn();
         stuckBeyond60();
+        onlyTheKeyIsReplaced();
         stuckEvenIfALaterRuleFits();
         hundredRulesAtOnce();
         hundredRulesInParts();
