@@ -556,7 +556,8 @@ public final class CursorRewriter {
         }
 
         int segmentWidth(Rule rule, char digit) {
-            return begins[rule.segmentEnds[digit - '1']] - segmentBegin(rule, digit);
+            int number = digit - '1';
+            return begins[rule.segmentEnds[number]] - begins[rule.segmentStarts[number]];
         }
     }
 
